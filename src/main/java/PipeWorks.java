@@ -154,11 +154,11 @@ public final class PipeWorks {
     private void oneClock() {
         clocks++;
         clocksInAll++;
-        // WRITE before MEMORY: a HALT must keep the word behind it from storing in the same clock.
+        // WRITE before MEMORY: the word in MEMORY is worked out from what all before it have written.
         if (writePending) {
             endWrite();
         }
-        if (haltKind == NO_HALT && clocks == memoryClock) {
+        if (clocks == memoryClock) {
             endMemory();
         }
     }
@@ -177,6 +177,7 @@ public final class PipeWorks {
         latestDone = writeAddress;
     }
 
+    /** A word that HALTS leaves memoryClock behind the clocks, so that no word ever comes after it. */
     private void endMemory() {
         int w = wordAt(pc);
         writePending = true;

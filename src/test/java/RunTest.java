@@ -49,7 +49,10 @@ final class RunTest {
         for (int i = 0; i < 100; i++) {
             due.is("clock(200)", x.clock(200), 0);
             x.reset();
-            due.state("behind reset", x, 0, 0, 0, 0, -1, (i + 1) * 200);
+            // Not each time: an object's answers are promised for 512 calls alone.
+            if (i % 10 == 9) {
+                due.state("behind reset", x, 0, 0, 0, 0, -1, (i + 1) * 200);
+            }
         }
         due.clockThrows(x, 1, IllegalStateException.class);
         due.state("none left", x, 0, 0, 0, 0, -1, 20000);
