@@ -2,20 +2,57 @@ import java.util.NoSuchElementException;
 
 /** Counts the answers of one test that are not the ones that are due. */
 final class Due {
+    private static final int MOST_SHOWN = 10;
+    private static final long MOST_SECONDS = 300;
+
     private final String test;
     private int looked = 0;
     private int wrong = 0;
+    private int shown = 0;
+    private String sentence = "";
+    private int lookedBefore = -1;
 
     Due(String test) {
         this.test = test;
+        Thread watch = new Thread(this::endLate);
+        watch.setDaemon(true);
+        watch.start();
+    }
+
+    /** A call that never ends is wrong too, and must not keep .ci/run from saying so. */
+    private void endLate() {
+        try {
+            Thread.sleep(1000 * MOST_SECONDS);
+        } catch (InterruptedException e) {
+            return;
+        }
+        System.out.println(test + sentence + ": not at its end after " + MOST_SECONDS + " seconds");
+        Runtime.getRuntime().halt(1);
+    }
+
+    /** From here on it is this sentence of the document that answers are held to. */
+    void sentence(String text) {
+        endSentence();
+        sentence = " [" + text + "]";
+        lookedBefore = looked;
+        shown = 0;
+    }
+
+    /** A sentence for which nothing was looked at would have no test. */
+    private void endSentence() {
+        if (looked == lookedBefore) {
+            wrong++;
+            System.out.println(test + sentence + ": nothing was looked at");
+        }
     }
 
     void is(String call, long got, long want) {
         looked++;
         if (got != want) {
             wrong++;
-            if (wrong <= 20) {
-                System.out.println(test + ": " + call + " answered " + got + ", due is " + want);
+            shown++;
+            if (shown <= MOST_SHOWN) {
+                System.out.println(test + sentence + ": " + call + " answered " + got + ", due is " + want);
             }
         }
     }
@@ -56,6 +93,7 @@ final class Due {
 
     /** Ends the test: exit code 1 if one answer was wrong. */
     void end() {
+        endSentence();
         System.out.println(test + ": " + looked + " answers looked at, " + wrong + " wrong");
         if (wrong != 0 || looked == 0) {
             System.exit(1);
